@@ -5,8 +5,14 @@ final class Check {
     static final Class<?> INDEX = IndexOutOfBoundsException.class;
 
     private static int wrong = 0;
+    private static String sentence = "";
 
     private Check() {
+    }
+
+    /** Begins the test of one sentence of the document: what is wrong from here on is told with it. */
+    static void sentence(String promise, String words) {
+        sentence = promise + " (" + words + "): ";
     }
 
     static void same(String what, long got, long due) {
@@ -48,7 +54,7 @@ final class Check {
 
     static void report(String line) {
         wrong++;
-        System.out.println(line);
+        System.out.println(sentence + line);
     }
 
     static void finish() {

@@ -1,134 +1,155 @@
-/**
- * What holds after every call of long runs with right and wrong arguments: a call throws nothing
- * but the document's exceptions, one that throws changes nothing, and the answers fit together.
- */
+import java.util.ArrayDeque;
+import java.util.Deque;
+import java.util.Random;
+
+/** Runs of 512 calls with right and wrong arguments, each answer beside the model's. */
 public final class LongRunsTest {
-    private static final int RUNS = 200;
+    private static final int RUNS = 400;
     private static final int CALLS = 512;
-    private static final int CALLS_BEYOND = 3000;
+    private static final int CALLS_BEYOND = 4000;
+    private static final int LAST_TOLD = 12;
+
+    private static final String[] NAMES = {"setRoom", "setVan", "leave", "fetch", "want", "value", "lend",
+        "repay", "doubt", "pass", "day", "things", "where", "whereOn", "load", "fees", "loan", "purse",
+        "taken", "wish"};
+    // How often each call comes, by its place in NAMES.
+    private static final int[] WEIGHTS = {3, 2, 8, 3, 12, 4, 10, 4, 6, 12, 1, 1, 8, 10, 4, 6, 3, 6, 2, 6};
+    private static final int[] EDGES = {Integer.MIN_VALUE, -2, -1, 0, 1, 5, 8, 24, 31, 41, 1001, 5001, 10001,
+        Integer.MAX_VALUE - 1, Integer.MAX_VALUE};
 
     private final LeftThings x = new LeftThings();
-    private long seed;
+    private final Model model = new Model();
+    private final Random random;
+    private final int mostDays;
+    private final Deque<String> told = new ArrayDeque<>();
 
-    private LongRunsTest(long seed) {
-        this.seed = seed;
+    /** The same seed makes the same run each time. */
+    private LongRunsTest(int seed) {
+        random = new Random(seed);
+        mostDays = seed % 4 == 0 ? 40 : 3;
     }
 
     public static void main(String[] args) {
-        for (int run = 1; run <= RUNS; run++) {
-            new LongRunsTest(run).calls(CALLS);
+        boolean due = true;
+        for (int run = 1; run <= RUNS && due; run++) {
+            Check.sentence("Promises 1 to 21", "run " + run);
+            due = new LongRunsTest(run).answersAreDue();
         }
-        // Answers are free then, but the machine must not throw.
-        new LongRunsTest(RUNS + 1).calls(CALLS_BEYOND);
+        Check.sentence("Rule 7", "no call may ever throw by itself, beyond call 512 too");
+        new LongRunsTest(4).throwsNothingElse();
         Check.finish();
     }
 
-    private void calls(int count) {
-        String before = answers();
-        for (int i = 0; i < count; i++) {
-            int kind = number(0, 9);
-            int[] words = {number(-1, 12), number(-1, 8), number(-1, 32)};
-            Class<?> thrown = Check.thrownBy(() -> call(kind, words));
+    private boolean answersAreDue() {
+        for (int i = 0; i < CALLS; i++) {
+            int call = nextCall();
+            int[] words = wordsOf(call);
+            String due = model.answer(call, words[0], words[1], words[2]);
+            String got = answer(call, words[0], words[1], words[2]);
+            tell(call, words, got);
+            if (!got.equals(due)) {
+                Check.report("due is " + due + ", the last of " + told);
+                return false;
+            }
+        }
+        return true;
+    }
+
+    private void throwsNothingElse() {
+        for (int i = 0; i < CALLS_BEYOND; i++) {
+            int call = nextCall();
+            int[] words = wordsOf(call);
+            model.answer(call, words[0], words[1], words[2]);
+            Class<?> thrown = Check.thrownBy(() -> call(call, words[0], words[1], words[2]));
             Check.holds("kind of " + thrown, thrown == null || thrown == Check.INDEX
                     || thrown == Check.ARGUMENT || thrown == Check.STATE);
-            String after = answers();
-            Check.holds("nothing changed by " + thrown, thrown == null || after.equals(before));
-            before = after;
-            fitTogether();
         }
     }
 
-    /** Right arguments are made more likely, or most calls would be refused. */
-    private void call(int kind, int[] words) {
-        int thing = words[0] * 2 < x.things() ? words[0] * 2 : words[0];
-        switch (kind) {
-            case 0 -> x.setRoom(words[1], words[2]);
-            case 1 -> x.setVan(words[2]);
-            case 2 -> x.leave(words[1], words[2] % 5, words[0] % 6);
-            case 3 -> x.fetch(words[2]);
-            case 4, 5 -> x.want(thing, words[1] % 6);
-            case 6 -> x.value(thing, words[2] * 4);
-            case 7 -> x.lend(thing, words[1], words[2]);
-            case 8 -> settle(thing, words[1]);
-            default -> x.pass(words[1] < 7 ? words[1] % 4 : words[2] % 9);
+    private void tell(int call, int[] words, String got) {
+        told.addLast(NAMES[call] + "(" + words[0] + ", " + words[1] + ", " + words[2] + ")=" + got);
+        if (told.size() > LAST_TOLD) {
+            told.removeFirst();
         }
     }
 
-    private void settle(int thing, int word) {
-        if (word % 2 == 0) {
-            x.repay(thing);
-        } else {
-            x.doubt(thing);
+    private int nextCall() {
+        int sum = 0;
+        for (int weight : WEIGHTS) {
+            sum += weight;
         }
+        int drawn = random.nextInt(sum);
+        int call = 0;
+        while (drawn >= WEIGHTS[call]) {
+            drawn -= WEIGHTS[call];
+            call++;
+        }
+        return call;
     }
 
-    private void fitTogether() {
-        int[] sizes = new int[5];
-        int paid = 0;
-        for (int thing = 0; thing < x.things(); thing++) {
-            int place = x.where(thing);
-            Check.holds("place " + place, place >= 0 && place <= 4 || place == 10 || place == 11);
-            Check.same("today", x.whereOn(thing, x.day()), place);
-            Check.holds("no loan away from counters", place <= 4 || x.loan(thing) == 0);
-            paid += place > 4 ? x.fees(thing) : 0;
-            backAndForth(thing);
+    /** Mostly right arguments, or most calls would be refused; wrong ones now and then. */
+    private int[] wordsOf(int call) {
+        int[] words = switch (NAMES[call]) {
+            case "setRoom" -> new int[] {below(5), below(31), 0};
+            case "setVan" -> new int[] {below(20), 0, 0};
+            case "leave" -> new int[] {below(8), 1 + below(3), below(5)};
+            case "value" -> new int[] {thing(), below(2) == 0 ? below(200) : below(10001), 0};
+            case "lend" -> new int[] {thing(), below(8), 1 + below(below(2) == 0 ? 30 : 5000)};
+            case "pass" -> new int[] {1 + below(mostDays), 0, 0};
+            case "want" -> new int[] {thing(), below(5), 0};
+            case "whereOn" -> new int[] {thing(), below(model.day() + 1), 0};
+            case "load" -> new int[] {below(5), 0, 0};
+            case "purse" -> new int[] {below(8), 0, 0};
+            case "wish" -> new int[] {below(8), 0, 0};
+            default -> new int[] {thing(), 0, 0};
+        };
+        if (below(12) == 0) {
+            words[below(3)] = EDGES[below(EDGES.length)];
         }
-        Check.same("taken", x.taken(), paid);
-        int wishes = 0;
-        while (Check.thrownBy(wishAt(wishes)) == null) {
-            Check.holds("wanted at a counter", x.where(x.wish(wishes)) <= 4);
-            wishes++;
-        }
-        Check.holds("wishes", wishes <= x.things());
+        return words;
     }
 
-    private Runnable wishAt(int place) {
-        return () -> x.wish(place);
+    private int thing() {
+        return below(Math.min(25, model.things() + 1));
     }
 
-    /** A thing is first not left, then at counters, then away for good. */
-    private void backAndForth(int thing) {
-        int stage = 0;
-        for (int day = 0; day < x.day(); day++) {
-            int place = x.whereOn(thing, day);
-            int now = place == 12 ? 0 : place <= 4 ? 1 : place;
-            Check.holds("stage " + stage + " before " + now, now == stage || now > stage && stage < 10);
-            stage = now;
-        }
+    private int below(int bound) {
+        return random.nextInt(bound);
     }
 
-    private String answers() {
-        StringBuilder all = new StringBuilder();
-        all.append(x.day()).append(' ').append(x.taken());
-        for (int counter = 0; counter < 5; counter++) {
-            all.append(' ').append(x.load(counter));
-        }
-        for (int person = 0; person < 8; person++) {
-            all.append(' ').append(x.purse(person));
-        }
-        for (int thing = 0; thing < x.things(); thing++) {
-            all.append(' ').append(x.where(thing)).append(' ').append(x.fees(thing));
-            all.append(' ').append(x.loan(thing)).append(' ').append(worth(thing));
-        }
-        for (int place = 0; Check.thrownBy(wishAt(place)) == null; place++) {
-            all.append(' ').append(x.wish(place));
-        }
-        return all.toString();
+    private String answer(int call, int a, int b, int c) {
+        Integer[] got = {null};
+        Class<?> thrown = Check.thrownBy(() -> got[0] = call(call, a, b, c));
+        return thrown == null ? "" + got[0] : thrown.getSimpleName();
     }
 
-    /** The worth has no question of its own: it is what value answers, and set again at once. */
-    private int worth(int thing) {
-        if (x.where(thing) > 4) {
-            return 0;
-        }
-        int worth = x.value(thing, 0);
-        x.value(thing, worth);
-        return worth;
+    private Integer call(int call, int a, int b, int c) {
+        return switch (NAMES[call]) {
+            case "setRoom" -> x.setRoom(a, b);
+            case "setVan" -> x.setVan(a);
+            case "leave" -> x.leave(a, b, c);
+            case "fetch" -> x.fetch(a);
+            case "want" -> x.want(a, b);
+            case "value" -> x.value(a, b);
+            case "lend" -> lend(a, b, c);
+            case "repay" -> x.repay(a);
+            case "doubt" -> x.doubt(a);
+            case "pass" -> x.pass(a);
+            case "day" -> x.day();
+            case "things" -> x.things();
+            case "where" -> x.where(a);
+            case "whereOn" -> x.whereOn(a, b);
+            case "load" -> x.load(a);
+            case "fees" -> x.fees(a);
+            case "loan" -> x.loan(a);
+            case "purse" -> x.purse(a);
+            case "taken" -> x.taken();
+            default -> x.wish(a);
+        };
     }
 
-    /** The same numbers in every run of the test. */
-    private int number(int least, int most) {
-        seed = seed * 6364136223846793005L + 1442695040888963407L;
-        return least + (int) Math.floorMod(seed >>> 33, (long) (most - least + 1));
+    private Integer lend(int thing, int lender, int sum) {
+        x.lend(thing, lender, sum);
+        return null;
     }
 }
